@@ -289,7 +289,7 @@ public final class HoldBookPromises {
         due("FREE", other.funds(0, 3), 90);
     }
 
-    /** The last time is 1000 calls away: what the document promises of 512 calls can't reach it, yet it must hold. */
+    /** The last time is 1000 calls away, beyond the 512 that are promised: there is no other way to see it kept. */
     private static void theLastTime() {
         HoldBook book = new HoldBook(5000, 5000);
         for (int call = 1; call < 1000; call++) {
@@ -448,6 +448,10 @@ public final class HoldBookPromises {
         due("LOCKED", book.funds(0, 2), 5);
         due("a key that went may come again", book.ask(6, 0, 1, false), 1);
         dueOfPayment("it comes as new", book, 6, HELD, 1, 0, 13, HoldBook.NONE, 0, 0, 0, HoldBook.NONE);
+        book.undo(1, 0, false);
+        book.undo(6, 0, false);
+        due("the first and the last by keys go", book.forget(), 2);
+        due("the one between them stays", book.key(0), 3);
     }
 
     private static void funds() {
